@@ -475,7 +475,7 @@ public final class RoughStones {
                 if (isEnd()) {
                     return true;
                 }
-                if (layers == SIDE || !readSign(';')) {
+                if (layers < SIDE && !readSign(';')) {
                     return false;
                 }
             }

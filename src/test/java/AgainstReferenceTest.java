@@ -399,16 +399,19 @@ public final class AgainstReferenceTest {
 
     private boolean ask(String what, Check.Call tested, Check.Call slow) {
         trail.append("\n  ").append(what);
-        String got = answer(tested);
-        String want = answer(slow);
+        String got = answer(tested, what);
+        String want = answer(slow, null);
         Check.due(what + ": " + got + " for " + want, got.equals(want) ? 1 : 0, 1);
         return got.equals(want);
     }
 
-    private static String answer(Check.Call call) {
+    private static String answer(Check.Call call, String ownThrow) {
         try {
             return "" + call.answer();
         } catch (RuntimeException thrown) {
+            if (ownThrow != null) {
+                Check.dueOwnThrow(ownThrow, thrown);
+            }
             return thrown.getClass().getSimpleName();
         }
     }

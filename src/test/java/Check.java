@@ -32,6 +32,15 @@ final class Check {
             if (thrown.getClass() != want) {
                 fail(what + " threw " + thrown + ", due is " + want.getSimpleName());
             }
+            dueOwnThrow(what, thrown);
+        }
+    }
+
+    /** What the class throws must come from a throw of its own, never from the machine or the library below it. */
+    static void dueOwnThrow(String what, RuntimeException thrown) {
+        StackTraceElement[] trace = thrown.getStackTrace();
+        if (trace.length == 0 || !trace[0].getClassName().startsWith("RoughStones")) {
+            fail(what + " let the machine throw " + thrown);
         }
     }
 

@@ -158,11 +158,29 @@ public final class CutsTest {
         Check.due("along z", house.sawn(0, 0), 2);
         Check.due("at 2", house.sawn(0, 1), 2);
         Check.due("c of the higher one", house.cut(0, 1, 5), 3);
+        columnAlongY();
         house.scan(0, 2, 0, 0);
         house.scan(0, 4, 0, 0);
         Check.due("one cut alone is whole", house.best(0), 8);
         Check.due("no axis", house.sawn(0, 0), -1);
         Check.due("one", house.sawn(0, 2), 1);
+    }
+
+    private static void columnAlongY() {
+        RoughStones house = new RoughStones();
+        house.rough();
+        Check.model(house, "1x1@0,0;1x1@0,0");
+        house.price(2, 1);
+        long column = 0;
+        for (int y = 0; y < 6; y++) {
+            column |= Check.cell(5, y);
+        }
+        house.scan(0, 5, column, 0);
+        Check.due("a column along y", house.best(0), 4);
+        Check.due("axis y", house.sawn(0, 0), 1);
+        Check.due("at 2", house.sawn(0, 1), 2);
+        cutIs(house, 0, 0, 1, 1, 5, 0, 5, 2);
+        cutIs(house, 1, 0, 1, 1, 5, 3, 5, 2);
     }
 
     /** What was found once is found anew after each thing that may change it. */

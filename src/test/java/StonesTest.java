@@ -9,6 +9,7 @@ public final class StonesTest {
         told();
         pairs();
         pairsThatAreNone();
+        heavyPairs();
         mostPairsFirst();
         firstOfTheSame();
         firstTen();
@@ -171,6 +172,29 @@ public final class StonesTest {
         polished(far, 1, 0, 1, 80);
         Check.due("890", far.told(1, 0), 890);
         Check.due("too far apart", far.match(), 0);
+    }
+
+    /** Of 216,000 grains each: 213,840 and 192,456 are a tenth apart to the grain, 192,261 is a little further. */
+    private static void heavyPairs() {
+        RoughStones house = Check.cubeHouse();
+        int[][] angles = {{0}, {90, 1}, {90, 0}};
+        int[] grains = {213840, 192261, 192456};
+        for (int stone = 0; stone < 3; stone++) {
+            Check.fill(house, 0);
+            house.done(0);
+            for (int angle : angles[stone]) {
+                house.facet(stone, 0, angle);
+            }
+            Check.due("heavy stone " + stone, house.polish(stone), grains[stone]);
+            if (stone == 1) {
+                Check.due("a little too far", house.match(), 0);
+            }
+        }
+        house.lot(0b10, 0);
+        house.bid(0, 0, 1);
+        house.sell();
+        Check.due("just near enough", house.match(), 1);
+        Check.due("0 with 2", house.told(0, 4), 2);
     }
 
     /** Grains 990, 920, 900, 830: the nearest two alone would leave the others without a mate. */
