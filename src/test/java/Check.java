@@ -4,6 +4,10 @@ final class Check {
         int answer();
     }
 
+    interface CallOf {
+        int answer(int argument);
+    }
+
     static final long FULL = (1L << 36) - 1;
     static final Class<?> INDEX = IndexOutOfBoundsException.class;
     static final Class<?> ARGUMENT = IllegalArgumentException.class;
@@ -36,6 +40,18 @@ final class Check {
         }
     }
 
+    /** The same for one argument's values in turn. */
+    static void dueThrows(String what, Class<?> want, CallOf call, int... arguments) {
+        for (int argument : arguments) {
+            dueThrow(what + " with " + argument, want, () -> call.answer(argument));
+        }
+    }
+
+    /** Numbers that lie outside 0 up to a bound (without it), just and by far. */
+    static int[] outside(int bound) {
+        return new int[] {-1, bound, bound + 1, -bound - 1, bound + (1 << 16), Integer.MIN_VALUE, Integer.MAX_VALUE};
+    }
+
     /** What the class throws must come from a throw of its own, never from the machine or the library below it. */
     static void dueOwnThrow(String what, RuntimeException thrown) {
         StackTraceElement[] trace = thrown.getStackTrace();
@@ -49,6 +65,10 @@ final class Check {
         if (wrong <= 50) {
             System.out.println(what);
         }
+    }
+
+    static int failures() {
+        return wrong;
     }
 
     static void end() {
@@ -105,6 +125,16 @@ final class Check {
         int number = house.count(2);
         house.done(0);
         return number;
+    }
+
+    /** The same, polished, each facet an angle at index 0: so the plan goes from the least angle up. */
+    static int polished(RoughStones house, int cells, int... angles) {
+        int stone = stone(house, cells);
+        for (int angle : angles) {
+            house.facet(stone, 0, angle);
+        }
+        house.polish(stone);
+        return stone;
     }
 
     /** A house whose models are rows of one to six cells, so that each stone's weight can be chosen. */
