@@ -141,7 +141,8 @@ public final class AgainstReferenceTest {
         for (int k = 0; k < kind; k++) {
             int weight = 1 + chance.nextInt(12);
             int price = 1 + chance.nextInt(9);
-            ask("price " + weight + " " + price, () -> house.price(weight, price), () -> reference.price(weight, price));
+            ask("price " + weight + " " + price, () -> house.price(weight, price),
+                    () -> reference.price(weight, price));
         }
     }
 

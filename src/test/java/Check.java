@@ -14,8 +14,11 @@ final class Check {
     static final Class<?> STATE = IllegalStateException.class;
     static final Class<?> ELEMENT = java.util.NoSuchElementException.class;
 
+    private static final int MOST_SHOWN = 10;
+
     private static int wrong = 0;
     private static int asked = 0;
+    private static int shown = 0;
 
     private Check() {
     }
@@ -62,9 +65,15 @@ final class Check {
 
     static void fail(String what) {
         wrong++;
-        if (wrong <= 50) {
+        shown++;
+        if (shown <= MOST_SHOWN) {
             System.out.println(what);
         }
+    }
+
+    /** A test with many wrong answers must not hide what the next one says. */
+    static void showAgain() {
+        shown = 0;
     }
 
     static int failures() {

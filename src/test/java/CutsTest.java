@@ -98,11 +98,16 @@ public final class CutsTest {
 
     /** Tells a row of cells of rough 0 anew, along an axis, at 0 of the others: bit k for the k-th; no others. */
     private static void scanRow(RoughStones house, int axis, int bits) {
+        scanRowAt(house, axis, bits, 0);
+    }
+
+    /** The same, at another number of both the others. */
+    private static void scanRowAt(RoughStones house, int axis, int bits, int beside) {
         for (int z = 0; z < 6; z++) {
             long sound = 0;
             for (int k = 0; k < 6; k++) {
-                boolean here = (bits >> k & 1) != 0 && (axis == 2 ? k : 0) == z;
-                sound |= here ? Check.cell(axis == 0 ? k : 0, axis == 1 ? k : 0) : 0;
+                boolean here = (bits >> k & 1) != 0 && (axis == 2 ? k : beside) == z;
+                sound |= here ? Check.cell(axis == 0 ? k : beside, axis == 1 ? k : beside) : 0;
             }
             house.scan(0, z, sound, 0);
         }
@@ -312,14 +317,16 @@ public final class CutsTest {
     private static void eachSawing() {
         for (int axis = 0; axis < 3; axis++) {
             for (int at = 1; at <= 4; at++) {
-                RoughStones house = houseOf(steps(1, 1), CELL);
-                scanRow(house, axis, 1 << at - 1 | 1 << at + 1);
-                bestIs(house, 2, axis, at, 2);
-                int[] lower = {0, 1, 0, 0, 0, 0, 1};
-                lower[3 + axis] = at - 1;
-                cutIs(house, 0, lower);
-                lower[3 + axis] = at + 1;
-                cutIs(house, 1, lower);
+                for (int beside = 0; beside < 6; beside++) {
+                    RoughStones house = houseOf(steps(1, 1), CELL);
+                    scanRowAt(house, axis, 1 << at - 1 | 1 << at + 1, beside);
+                    bestIs(house, 2, axis, at, 2);
+                    int[] want = {0, 1, 0, beside, beside, beside, 1};
+                    want[3 + axis] = at - 1;
+                    cutIs(house, 0, want);
+                    want[3 + axis] = at + 1;
+                    cutIs(house, 1, want);
+                }
             }
         }
     }

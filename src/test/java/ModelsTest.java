@@ -30,6 +30,7 @@ public final class ModelsTest {
         doc.holds(in, "X and W, and Y and D, come to 6 at most;", ModelsTest::sums);
         doc.holds(in, "at most 6 LAYERS.", ModelsTest::sixLayers);
         doc.holds(in, "LAYER z of the MODEL has the CELLS", ModelsTest::layersUp);
+        doc.holds(in, "LAYER z of the MODEL has the CELLS", ModelsTest::layersOfTextsBefore);
         doc.holds(in, "with x from X on, W of them, y from Y on, D of them.", ModelsTest::cellsOfLayer);
     }
 
@@ -68,6 +69,7 @@ public final class ModelsTest {
         doc.holds(6, "IllegalArgumentException: n is not 0 to the TAPE's bytes;", ModelsTest::wrongLength);
         doc.holds(6, "IllegalStateException: there are 6.", ModelsTest::seventhModel);
         doc.holds(9, "The greatest SIZE at which a MODEL FITS a ROUGH in a WAY;", ModelsTest::greatestSize);
+        doc.holds(9, "The greatest SIZE at which a MODEL FITS a ROUGH in a WAY;", ModelsTest::greatestOfEachShape);
         doc.holds(9, "The greatest SIZE at which a MODEL FITS a ROUGH in a WAY;", ModelsTest::lesserSizeDoesNotFit);
         doc.holds(9, "0: at none.", ModelsTest::fitsAtNone);
         doc.holds(9, "NoSuchElementException: no such MODEL (so below);", ModelsTest::noModel);
@@ -249,6 +251,23 @@ public final class ModelsTest {
                 }
             }
             house.scan(0, z, sound[z], 0);
+        }
+    }
+
+    /** Layers of a longer text that was read before, as a model or in vain, are none of the next one's. */
+    private static void layersOfTextsBefore() {
+        String all = "6x6@0,0;6x6@0,0;6x6@0,0;6x6@0,0;6x6@0,0;6x6@0,0";
+        RoughStones house = houseOf(all, CELL, all + ";", "2x1@0,0");
+        house.scan(0, 5, 0b11L << 34, 0);
+        for (int way = 0; way < 6; way++) {
+            Check.due("all, way " + way, house.fit(0, 0, way), 0);
+            Check.due("a cell, way " + way, house.fit(0, 1, way), 1);
+            Check.due("two cells, way " + way, house.fit(0, 2, way), way < 2 ? 1 : 0);
+        }
+        Check.fill(house, 0);
+        for (int way = 0; way < 6; way++) {
+            Check.due("a cell in all, way " + way, house.fit(0, 1, way), 6);
+            Check.due("two cells in all, way " + way, house.fit(0, 2, way), 3);
         }
     }
 
@@ -543,6 +562,11 @@ public final class ModelsTest {
         Check.due("none of them", house.model(0), -2);
         Check.type(house, SIX_LAYERS + " ".repeat(53));
         Check.due("all hundred", house.model(100), 1);
+        Check.type(house, "1x1@0,              ");
+        Check.due("blanks behind them are not of the text", house.model(6), -8);
+        Check.type(house, "                    ");
+        Check.due("none of the blanks", house.model(0), -2);
+        Check.due("what is no more on the tape is not read", house.model(0), -2);
     }
 
     private static void emptyThen() {
@@ -618,6 +642,21 @@ public final class ModelsTest {
         int[] flat = {2, 2, 2, 0, 2, 0};
         for (int way = 0; way < 6; way++) {
             Check.due("three in a row, two layers, way " + way, house.fit(0, 3, way), flat[way]);
+        }
+    }
+
+    private static void greatestOfEachShape() {
+        for (int shape = 0; shape < 216; shape++) {
+            int wide = 1 + shape % 6;
+            int deep = 1 + shape / 6 % 6;
+            int high = 1 + shape / 36;
+            String layer = wide + "x" + deep + "@" + (6 - wide) + "," + (6 - deep);
+            RoughStones house = houseOf(layer + (";" + layer).repeat(high - 1));
+            Check.fill(house, 0);
+            int longest = Math.max(wide, Math.max(deep, high));
+            for (int way = 0; way < 6; way++) {
+                Check.due(high + " layers of " + layer + ", way " + way, house.fit(0, 0, way), 6 / longest);
+            }
         }
     }
 

@@ -18,6 +18,7 @@ public final class RoomTest {
         Check.end();
     }
 
+    /** Just 512 calls, the last one that the document promises an answer of. */
     private static void run() {
         RoughStones house = Check.rowHouse();
         for (int k = 0; k < 39; k++) {
@@ -30,12 +31,14 @@ public final class RoomTest {
         for (int k = 0; k < 6; k++) {
             house.lot(1 << k, 0);
         }
-        for (int k = 0; k < 120; k++) {
+        for (int k = 0; k < 119; k++) {
             house.price(1 + k % 10, 1 + k % 7);
             house.best(0);
             house.match();
         }
         house.sell();
         house.polish(0);
+        Check.due("stones by the 511th call", house.count(2), 39);
+        Check.due("best by the 512th call", house.best(0), 1080);
     }
 }

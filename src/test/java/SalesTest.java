@@ -55,6 +55,7 @@ public final class SalesTest {
     private static void salePromises(Sentences doc) {
         doc.takePromises(23, 24);
         doc.holds(23, "SOLD: what it brings;", SalesTest::whatItBrings);
+        doc.holds(23, "SOLD: what it brings;", SalesTest::salesAreApart);
         doc.holds(23, "there are no LOTS,", SalesTest::noLotsThen);
         doc.holds(23, "BIDS any more", SalesTest::noBidsThen);
         doc.holds(23, "(STONES of those given to none are in none).", SalesTest::inNoneThen);
@@ -492,6 +493,22 @@ public final class SalesTest {
         pair.lot(0b1011, 0);
         pair.bid(2, 0, 50);
         saleIs(pair, 50, 2, 2, -1, 2);
+    }
+
+    /** What was found for one sale is of no account for the next, of fewer LOTS. */
+    private static void salesAreApart() {
+        RoughStones house = saleOf(bids(0, 9), bids(9), bids(9), bids(9), bids(9), bids(9));
+        limit(house, 0, 0);
+        Check.due("nobody takes any", house.sell(), 0);
+        limit(house, 6, 6);
+        house.lot(0b01, 0);
+        house.bid(0, 0, 8);
+        house.bid(1, 0, 7);
+        saleIs(house, 8, 0, -1);
+        house.lot(0b10, 0);
+        house.lot(0b100, 0);
+        house.bid(2, 1, 1);
+        saleIs(house, 1, 0, -1, 2);
     }
 
     private static void noLotsThen() {

@@ -55,16 +55,18 @@ final class Sentences {
         for (int k = at; k < at + sentence.length(); k++) {
             tested[k] = true;
         }
-        run("promise " + promise + ", '" + sentence + "'", test);
+        run((promise == TERMS ? "terms" : "promise " + promise) + ", '" + sentence + "'", test);
     }
 
     private static void run(String what, Runnable test) {
         int before = Check.failures();
+        Check.showAgain();
         try {
             test.run();
         } catch (RuntimeException thrown) {
-            Check.fail("a call threw " + thrown + " at " + thrown.getStackTrace()[0]);
+            Check.fail("a call threw " + thrown);
         }
+        Check.showAgain();
         if (Check.failures() > before) {
             Check.fail("broken: " + what);
         }

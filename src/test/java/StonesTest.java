@@ -54,6 +54,7 @@ public final class StonesTest {
         doc.holds(14, "IllegalArgumentException: INDEX", StonesTest::wrongIndex);
         doc.holds(14, "or ANGLE.", StonesTest::wrongAngle);
         doc.holds(15, "How long PLAN is;", StonesTest::lengthOfPlan);
+        doc.holds(15, "How long PLAN is;", StonesTest::plansAreApart);
         doc.holds(15, "0 without FACETS.", StonesTest::noRound);
         doc.holds(16, "The k-th FACET of PLAN;", StonesTest::facetsOfPlan);
         doc.holds(16, "NONE.", StonesTest::outsideThePlan);
@@ -260,7 +261,8 @@ public final class StonesTest {
             Check.due("angle " + angle, wheelOf(0, angle).polish(0), 990 - angle);
         }
         Check.due("of what is left", wheelOf(0, 90, 0, 90).polish(0), 810);
-        Check.due("eight times a tenth", wheelOf(0, 90, 0, 90, 0, 90, 0, 90, 0, 90, 0, 90, 0, 90, 0, 90).polish(0), 429);
+        RoughStones eight = wheelOf(0, 90, 0, 90, 0, 90, 0, 90, 0, 90, 0, 90, 0, 90, 0, 90);
+        Check.due("eight times a tenth", eight.polish(0), 429);
         RoughStones large = Check.cubeHouse();
         Check.fill(large, 0);
         large.done(0);
@@ -269,11 +271,12 @@ public final class StonesTest {
         Check.due("of the heaviest", large.polish(0), 174960);
     }
 
-    /** 990 less 9.9 is 980; 989 less 10.879 is 978; 990 less 94.05 is 895. */
+    /** 990 less 9.9 is 980; 989 less 10.879 is 978; 973 less 36.001 is 936; 989 less 89.999 is 899. */
     private static void roundedUp() {
         Check.due("by a tenth of a grain", wheelOf(0, 0, 0, 0).polish(0), 980);
         Check.due("by more", wheelOf(0, 1, 0, 1).polish(0), 978);
-        Check.due("nearly a whole grain", wheelOf(0, 0, 0, 85).polish(0), 895);
+        Check.due("by nearly a whole grain", wheelOf(0, 17, 0, 27).polish(0), 936);
+        Check.due("by a thousandth of one", wheelOf(0, 1, 0, 81).polish(0), 899);
         Check.due("a whole number stays", wheelOf(0, 0, 0, 90).polish(0), 891);
     }
 
@@ -315,7 +318,7 @@ public final class StonesTest {
         Check.due("one given to none is matched", back.match(), 1);
     }
 
-    /** A tenth of 990 is 99, of 985 98.5, of 213,840 21,384. */
+    /** A tenth of 990 is 99, of 985 98.5, of 194,400 19,440. */
     private static void nearEnough() {
         nearness(990, 891, 1, angles(0), angles(0, 90));
         nearness(990, 890, 0, angles(0), angles(1, 90));
@@ -329,8 +332,8 @@ public final class StonesTest {
         Check.polished(cells, 2, 0);
         Check.polished(cells, 6, 0);
         Check.due("of other weights", cells.match(), 0);
-        heavyNearness(angles(90, 1), 192261, 0);
-        heavyNearness(angles(90, 0), 192456, 1);
+        heavyNearness(angles(1, 81, 89), 174959, 0);
+        heavyNearness(angles(90, 90), 174960, 1);
     }
 
     private static void nearness(int one, int other, int pairs, int[] angles, int[] otherAngles) {
@@ -347,12 +350,12 @@ public final class StonesTest {
         for (int stone = 0; stone < 2; stone++) {
             Check.fill(house, 0);
             house.done(0);
-            for (int angle : stone == 0 ? angles(0) : angles) {
+            for (int angle : stone == 0 ? angles(90) : angles) {
                 house.facet(stone, 0, angle);
             }
             house.polish(stone);
         }
-        Check.due("213,840", house.told(0, 0), 213840);
+        Check.due("one", house.told(0, 0), 194400);
         Check.due("the other", house.told(1, 0), grains);
         Check.due("a pair of heavy ones", house.match(), pairs);
     }
@@ -530,7 +533,22 @@ public final class StonesTest {
         }
         house.polish(0);
         Check.due("when it is polished", house.round(0), 228);
-        Check.due("up and about each time", wheelOf(48, 90, 0, 0, 48, 90, 0, 0).round(0), 228);
+        Check.due("up and about once", wheelOf(48, 90, 0, 0, 48, 90, 0, 0).round(0), 228);
+    }
+
+    /** What was found for one stone is of no account for the next. */
+    private static void plansAreApart() {
+        RoughStones house = wheelOf(0, 90, 48, 0, 24, 45, 72, 90, 12, 0, 90, 30, 60, 60, 36, 15);
+        house.round(0);
+        for (int facets = 1; facets <= 7; facets++) {
+            int stone = Check.stone(house, 1);
+            for (int k = 0; k < facets; k++) {
+                house.facet(stone, facets - k, 0);
+            }
+            Check.due("a round of " + facets, house.round(stone), facets);
+            Check.due("its first", house.plan(stone, 0), facets - 1);
+            Check.due("its last", house.plan(stone, facets - 1), 0);
+        }
     }
 
     private static void noRound() {
