@@ -2,7 +2,7 @@ import java.util.Random;
 
 /**
  * Runs of chance calls (of a fixed seed), each answered by the class and by the slow reference: mixed ones, and
- * ones that are about wheels, pairs or sales alone, which mixed runs seldom come to.
+ * ones that are about cuts, wheels, pairs or sales alone, which mixed runs seldom come to.
  */
 public final class AgainstReferenceTest {
     private final Random chance;
@@ -19,6 +19,7 @@ public final class AgainstReferenceTest {
         long from = Long.getLong("seed", 1);
         for (long seed = from; seed < from + runs; seed++) {
             new AgainstReferenceTest(seed).tell(seed, AgainstReferenceTest::runMixed);
+            new AgainstReferenceTest(seed).tell(seed, AgainstReferenceTest::runCuts);
             new AgainstReferenceTest(seed).tell(seed, AgainstReferenceTest::runWheel);
             new AgainstReferenceTest(seed).tell(seed, AgainstReferenceTest::runPairs);
             new AgainstReferenceTest(seed).tell(seed, AgainstReferenceTest::runSales);
@@ -41,6 +42,52 @@ public final class AgainstReferenceTest {
             }
         }
         return true;
+    }
+
+    /** Few prices, low ones too, so that many cuts and sawings are of the same worth. */
+    private boolean runCuts() {
+        boolean good = ask("rough", house::rough, reference::rough);
+        int models = 1 + chance.nextInt(4);
+        for (int k = 0; k < models; k++) {
+            good = good && type(goodModel());
+        }
+        for (int k = 0; k < 4; k++) {
+            int weight = 1 + chance.nextInt(chance.nextBoolean() ? 6 : 70);
+            int price = chance.nextInt(5);
+            good = good && ask("price " + weight + " " + price, () -> house.price(weight, price),
+                    () -> reference.price(weight, price)) && scanWhole(chance.nextInt(5)) && askBest();
+        }
+        return good && ask("done", () -> house.done(0), () -> reference.done(0)) && askBest();
+    }
+
+    /** All layers of rough 0: of one in so many cells (0: of none) nothing is sound. */
+    private boolean scanWhole(int rare) {
+        boolean good = true;
+        for (int z = 0; z < 6 && good; z++) {
+            int layer = z;
+            long sound = Check.FULL;
+            for (int bit = 0; bit < 36; bit++) {
+                sound &= rare > 0 && chance.nextInt(rare * rare + 1) == 0 ? ~(1L << bit) : -1L;
+            }
+            long left = sound;
+            good = ask("scan 0 " + z + " " + left, () -> house.scan(0, layer, left, 0),
+                    () -> reference.scan(0, layer, left, 0));
+        }
+        return good;
+    }
+
+    private boolean askBest() {
+        int[] due = reference.allOfBest(0);
+        boolean good = ask("best", () -> house.best(0), () -> due[0]);
+        for (int k = 0; k < 3; k++) {
+            int what = k;
+            good = good && ask("sawn " + k, () -> house.sawn(0, what), () -> due[1 + what]);
+        }
+        for (int k = 0; k < 21; k++) {
+            int at = k;
+            good = good && ask("cut " + k / 7 + " " + k % 7, () -> house.cut(0, at / 7, at % 7), () -> due[4 + at]);
+        }
+        return good;
     }
 
     /** Facets from a coarse grid, so that many rounds are of the same length. */

@@ -320,7 +320,26 @@ final class Reference {
         if (what < 0 || what > 6) {
             throw new IllegalArgumentException();
         }
+        return ofCut(choice(rough), k, what);
+    }
+
+    /** All that best, sawn and cut can tell, of three cuts, found once: trying everything out is slow. */
+    int[] allOfBest(int rough) {
         Choice choice = choice(rough);
+        int[] told = new int[4 + 3 * 7];
+        told[0] = choice.worth;
+        told[1] = choice.axis;
+        told[2] = choice.at;
+        told[3] = choice.cuts.size();
+        for (int k = 0; k < 3; k++) {
+            for (int what = 0; what < 7; what++) {
+                told[4 + 7 * k + what] = ofCut(choice, k, what);
+            }
+        }
+        return told;
+    }
+
+    private static int ofCut(Choice choice, int k, int what) {
         if (k < 0 || k >= choice.cuts.size()) {
             return what == 3 || what == 4 || what == 5 ? -1000 : -1;
         }
